@@ -206,6 +206,9 @@ public final class PuddingstoneLineTest {
         same("join into the other", line.join(1, 0, 1, 2), 10);
         same("joined into the other", spans(line, 1), "[10,15)");
         same("with itself, just one", line.join(0, 0, 0, 3), 0);
+        put(line, 3, "[0,0] [100,100]");
+        same("at both ends of the LINE", line.join(4, 3, 1, 0), 12);
+        same("joined at both ends", spans(line, 4), "[0,0] [10,15) [100,100]");
         refused(line, "join to -1", INDEX, () -> line.join(-1, 0, 1, 0));
         refused(line, "join to 8", INDEX, () -> line.join(8, 0, 1, 4));
         refused(line, "join one 8", INDEX, () -> line.join(0, 8, 1, 0));
@@ -248,6 +251,7 @@ public final class PuddingstoneLineTest {
         changed("(10,20) [30,40]", 5, 19, "(10,20)");
         changed("[10,20] (30,41)", 5, 21, "(30,41)");
         changed("[7,7] [9,9]", 5, 1, "[7,7]");
+        changed("[0,0] [10,12] [100,100]", 5, 5, "[10,12]");
         changed("[7,7] (9,10)", 5, 1, "(9,10)");
         changed("", 5, 0, "");
         changed("(10,20) (20,30) [40,41)", 6, 61, "(10,41)");
@@ -306,6 +310,8 @@ public final class PuddingstoneLineTest {
         same("stretched all by 7", spans(line, 5), "(0,100]");
         put(line, 6, "[51,60]");
         same("all lost", line.stretch(6, 2), 0);
+        put(line, 6, "[100,100]");
+        same("the end is lost", line.stretch(6, 10), 0);
         for (int set : new int[] {-1, 8, MIN, MAX}) {
             refused(line, "stretch, set " + set, INDEX, () -> line.stretch(set, 2));
             refused(line, "stretch, both wrong, set " + set, INDEX, () -> line.stretch(set, 1));
@@ -320,8 +326,8 @@ public final class PuddingstoneLineTest {
             {200, 2, 100, 0, 1, 0}, {2, 2, 0, 2, 1, 100}};
         PuddingstoneLine line = with("", "[0,100]", "[40,40]", "[10,20] [30,30] (40,50) (50,60)", "[0,7) (7,100]",
             "[0,0] [100,100]");
-        for (int set = 0; set < due.length; set++) {
-            for (int what = 0; what <= 5; what++) {
+        for (int what = 0; what <= 5; what++) {
+            for (int set = 0; set < due.length; set++) {
                 same("ofSet(" + set + ", " + what + ")", line.ofSet(set, what), due[set][what]);
             }
         }
@@ -405,6 +411,10 @@ public final class PuddingstoneLineTest {
         for (int[] d : due) {
             same("beside(" + d[0] + ", " + d[1] + ")", line.beside(d[0], d[1]), d[2]);
         }
+        PuddingstoneLine ends = with("[0,0]", "[100,100]", "[0,100]");
+        same("both ends", ends.beside(0, 1), 4);
+        same("the left end", ends.beside(0, 2), 1);
+        same("the right end", ends.beside(2, 1), 2);
         refusedOfTwoSets(line, "beside", (one, other) -> line.beside(one, other));
     }
 
@@ -502,6 +512,12 @@ public final class PuddingstoneLineTest {
             String got = line.value(2, 0) + " " + line.value(2, 20) + " " + line.value(2, 40) + " " + line.value(2, 60);
             same("mix at the limits " + how, got, limited[how]);
         }
+        line.set(0, 0, 5000);
+        line.set(1, 0, -77);
+        line.mix(2, 0, 1, 4);
+        same("a product / 100", line.value(2, 0), -3850);
+        line.set(0, 0, 10000);
+        line.set(1, 0, 10000);
         same("STEPS of a mix", line.mix(3, 0, 1, 0), 4);
         same("mix of a FUNCTION with itself", line.mix(4, 0, 0, 3), 1);
         for (int k : new int[] {-1, 5, MIN, MAX}) {
@@ -545,6 +561,17 @@ public final class PuddingstoneLineTest {
                 same("n is not looked at, how " + how, line.turn(0, how, n), 1);
             }
         }
+        PuddingstoneLine below = with("", "[0,100)", "[100,100]", "(99,100]");
+        below.set(0, 1, -4);
+        below.set(0, 2, -7);
+        below.turn(0, 1, 0);
+        same("greatest from the left, all below 0", values(below, 0, 0, 1) + " " + values(below, 0, 199, 200),
+            "-4 -4 -4 -4");
+        below.set(0, 3, -9);
+        below.set(0, 2, -7);
+        below.turn(0, 2, 0);
+        same("greatest from the right, all below 0", values(below, 0, 0, 1) + " " + values(below, 0, 198, 200),
+            "-4 -4 -4 -7 -7");
         PuddingstoneLine line = with("[0,2]", "[2,5]");
         line.set(0, 0, 9000);
         line.set(0, 1, -9000);
@@ -615,6 +642,13 @@ public final class PuddingstoneLineTest {
         line.raise(3, 100, 100, 3, 1);
         int[][] due = {{8, -5, 7, 1, 7 + 7 + 3 + 7}, {1, 1000, 1000, 0, 100000}, {1, -1000, -1000, 0, -100000},
             {2, 0, 1, 200, 0}, {1, 0, 0, 0, 0}};
+        PuddingstoneLine ends = new PuddingstoneLine();
+        int[][] raised = {{0, 5}, {0, -5}, {100, 5}, {100, -5}};
+        for (int k = 0; k < 4; k++) {
+            ends.raise(k, raised[k][0], raised[k][0], 3, raised[k][1]);
+            same("least with " + raised[k][1], ends.ofFunction(k, 1), Math.min(0, raised[k][1]));
+            same("greatest with " + raised[k][1], ends.ofFunction(k, 2), Math.max(0, raised[k][1]));
+        }
         for (int function = 0; function < 5; function++) {
             for (int what = 0; what <= 4; what++) {
                 same("ofFunction(" + function + ", " + what + ")", line.ofFunction(function, what),
@@ -726,6 +760,11 @@ public final class PuddingstoneLineTest {
         }
         line.span(7, 100, 100, 3, true);
         same("cover of the right end", line.cover(128, 7), 1);
+        PuddingstoneLine ends = with("[0,0] [100,100]", "[0,10] [90,100]", "[95,100]");
+        same("cover of both ends", ends.cover(2, 0), 2);
+        same("no cover of both ends", ends.cover(4, 0), -1);
+        same("cover up to the end", ends.cover(2, 2), 1);
+        same("no cover of the left end", ends.cover(128, 0), -1);
         same("no cover of the right end", line.cover(127, 7), -1);
         refusedOfFamilyAndSet(line, "cover", (family, set) -> line.cover(family, set));
     }
@@ -771,6 +810,8 @@ public final class PuddingstoneLineTest {
         pinned(4, "[0,0] [2,2] [4,4]", "[0,4]", "(98,100]");
         pinned(2, "[0,50]", "[10,12]", "[49,60]");
         pinned(2, "[0,90]", "[10,20]", "[30,40]", "[15,85]");
+        pinned(1, "[0,0]", "[0,1]", "[0,100]");
+        pinned(1, "[100,100]", "[99,100]", "[0,100]");
         pinned(2, "[10,12)", "", "", "", "", "", "", "(12,14)");
         PuddingstoneLine line = with("[10,20] [40,50]", "[30,35]", "[0,100]");
         int[][] due = {{0, 0}, {1, 2}, {2, 1}, {3, 3}, {4, 1}, {7, 3}, {5, 2}, {248, 0}};
@@ -815,6 +856,9 @@ public final class PuddingstoneLineTest {
         same("to the left end", ends.clear(2, 3), -100);
         same("the right end is free", ends.clear(2, 4), 0);
         same("nowhere", ends.clear(1, 5), 1000);
+        PuddingstoneLine open = with("(99,100)", "(98,100)", "(0,1)", "(0,2)");
+        same("not over the right end", open.clear(0, 1), -2);
+        same("not over the left end", open.clear(2, 3), 2);
         refusedOfTwoSets(line, "clear", (one, other) -> line.clear(one, other));
     }
 
@@ -824,9 +868,10 @@ public final class PuddingstoneLineTest {
         line.raise(1, 44, 46, 0, 10);
         line.raise(2, 0, 99, 0, -5);
         line.raise(3, 20, 20, 3, 1000);
+        line.raise(4, 1, 3, 3, 9);
         int[][] due = {{0, 1, 9}, {0, 2, 12}, {0, 3, 12}, {0, 4, 12}, {0, 5, 9}, {0, 6, 8}, {0, 100, 0}, {0, 91, 0}, {0, 99, 0},
             {1, 2, 40}, {1, 1, 40}, {1, 3, 39}, {1, 5, 40}, {1, 6, 40}, {1, 7, 39}, {2, 1, 99}, {2, 2, 98},
-            {2, 100, 0}, {3, 1, 0}, {4, 50, 0}};
+            {2, 100, 0}, {3, 1, 0}, {3, 50, 0}, {4, 1, 1}, {4, 2, 1}, {4, 3, 0}};
         for (int[] d : due) {
             long before = line.digest();
             same("best(" + d[0] + ", " + d[1] + ")", line.best(d[0], d[1]), d[2]);

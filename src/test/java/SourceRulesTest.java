@@ -9,9 +9,10 @@ import java.util.regex.Pattern;
 
 /** What of ../shared/LANGUAGE.md can be seen in the text of the class; runs from the project's folder. */
 public final class SourceRulesTest {
-    private static final String[] FORBIDDEN = {"import", "package", "->", "::", "try", "catch", "finally",
-        "synchronized", "assert", "native", "var", "float", "Object", "System", "hashCode", "toString", "Thread",
-        "protected", "instanceof"};
+    private static final String[] FORBIDDEN = {"package", "->", "::", "finally", "synchronized", "assert", "native",
+        "protected", "hashCode", "toString", "Thread", "getMessage", "NullPointerException", "ClassCastException",
+        "ArrayIndexOutOfBoundsException", "NegativeArraySizeException", "ArrayStoreException", "catch (Throwable",
+        "catch (Exception", "catch (RuntimeException"};
 
     private static boolean isFound(String code, String word) {
         String edge = Character.isLetter(word.charAt(0)) ? "\\b" : "";
