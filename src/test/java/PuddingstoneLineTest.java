@@ -23,57 +23,6 @@ public final class PuddingstoneLineTest {
         checks.refused(line, name, due, call);
     }
 
-    // The SPANS of a SET as text, such as "[10,20] (30,40)".
-    private static String spans(PuddingstoneLine line, int set) {
-        StringBuilder text = new StringBuilder();
-        int count = line.ofSet(set, 1);
-        for (int k = 0; k < count; k++) {
-            int ends = line.ofSpan(set, k, 2);
-            text.append(k == 0 ? "" : " ").append((ends & 1) != 0 ? "[" : "(").append(line.ofSpan(set, k, 0));
-            text.append(",").append(line.ofSpan(set, k, 1)).append((ends & 2) != 0 ? "]" : ")");
-        }
-        return text.toString();
-    }
-
-    // Puts in SPANS that are written as spans() writes them.
-    private static PuddingstoneLine put(PuddingstoneLine line, int set, String spans) {
-        for (String span : spans.split(" ")) {
-            String[] numbers = span.substring(1, span.length() - 1).split(",");
-            int ends = (span.startsWith("[") ? 1 : 0) + (span.endsWith("]") ? 2 : 0);
-            line.span(set, Integer.parseInt(numbers[0]), Integer.parseInt(numbers[1]), ends, true);
-        }
-        return line;
-    }
-
-    private static PuddingstoneLine with(String... spans) {
-        PuddingstoneLine line = new PuddingstoneLine();
-        for (int set = 0; set < spans.length; set++) {
-            if (!spans[set].isEmpty()) {
-                put(line, set, spans[set]);
-            }
-        }
-        return line;
-    }
-
-    // The VALUES of the GRAINS from first to last, as text.
-    private static String values(PuddingstoneLine line, int function, int first, int last) {
-        StringBuilder text = new StringBuilder();
-        for (int grain = first; grain <= last; grain++) {
-            text.append(grain == first ? "" : " ").append(line.value(function, grain));
-        }
-        return text.toString();
-    }
-
-    // A FUNCTION with VALUES of one GRAIN each, from a first GRAIN on.
-    private static PuddingstoneLine valued(PuddingstoneLine line, int function, int first, int... values) {
-        for (int k = 0; k < values.length; k++) {
-            int grain = first + k;
-            int a = grain / 2;
-            line.raise(function, a, a + grain % 2, 0, values[k]);
-        }
-        return line;
-    }
-
     private static void face() {
         TreeSet<String> names = new TreeSet<>();
         for (Method method : PuddingstoneLine.class.getDeclaredMethods()) {
@@ -150,30 +99,30 @@ public final class PuddingstoneLineTest {
     private static void promise2Span() {
         PuddingstoneLine line = new PuddingstoneLine();
         same("span without ends", line.span(0, 10, 20, 0, true), 19);
-        same("spans without ends", spans(line, 0), "(10,20)");
+        same("spans without ends", Lines.spans(line, 0), "(10,20)");
         same("span with a", line.span(1, 10, 20, 1, true), 20);
-        same("spans with a", spans(line, 1), "[10,20)");
+        same("spans with a", Lines.spans(line, 1), "[10,20)");
         same("span with b", line.span(2, 10, 20, 2, true), 20);
-        same("spans with b", spans(line, 2), "(10,20]");
+        same("spans with b", Lines.spans(line, 2), "(10,20]");
         same("span with both", line.span(3, 10, 20, 3, true), 21);
-        same("spans with both", spans(line, 3), "[10,20]");
+        same("spans with both", Lines.spans(line, 3), "[10,20]");
         same("again", line.span(3, 10, 20, 3, true), 0);
         same("overlapping", line.span(3, 15, 25, 0, true), 9);
         same("cut", line.span(3, 12, 14, 1, false), 4);
-        same("what is left", spans(line, 3), "[10,12) [14,25)");
+        same("what is left", Lines.spans(line, 3), "[10,12) [14,25)");
         same("cut where nothing is", line.span(3, 12, 14, 0, false), 0);
         same("cut out a point", line.span(3, 20, 20, 0, false), 1);
-        same("spans beside the point", spans(line, 3), "[10,12) [14,20) (20,25)");
+        same("spans beside the point", Lines.spans(line, 3), "[10,12) [14,20) (20,25)");
         for (int ends = 0; ends <= 3; ends++) {
             same("a as b, ends " + ends, line.span(4, 2 * ends, 2 * ends, ends, true), 1);
         }
-        same("points", spans(line, 4), "[0,0] [2,2] [4,4] [6,6]");
+        same("points", Lines.spans(line, 4), "[0,0] [2,2] [4,4] [6,6]");
         same("one long without ends", line.span(5, 7, 8, 0, true), 1);
-        same("it is", spans(line, 5), "(7,8)");
+        same("it is", Lines.spans(line, 5), "(7,8)");
         same("the whole LINE", line.span(6, 0, 100, 3, true), 201);
         same("its left end cut", line.span(6, 0, 0, 0, false), 1);
         same("its right end cut", line.span(6, 100, 100, 0, false), 1);
-        same("what is left of it", spans(line, 6), "(0,100)");
+        same("what is left of it", Lines.spans(line, 6), "(0,100)");
 
         int[] noSets = {-1, 8, MIN, MAX};
         for (int set : noSets) {
@@ -194,21 +143,21 @@ public final class PuddingstoneLineTest {
         String[] due = {"[10,30]", "(15,20)", "[10,15] [20,20]", "[10,15] [20,30]"};
         int[] counts = {41, 9, 12, 32};
         for (int how = 0; how <= 3; how++) {
-            PuddingstoneLine line = with("[10,20]", "(15,20) (20,30]", "[90,95]");
+            PuddingstoneLine line = Lines.with("[10,20]", "(15,20) (20,30]", "[90,95]");
             same("join " + how, line.join(2, 0, 1, how), counts[how]);
-            same("joined " + how, spans(line, 2), due[how]);
-            same("one is left as it is", spans(line, 0), "[10,20]");
-            same("the other is left as it is", spans(line, 1), "(15,20) (20,30]");
+            same("joined " + how, Lines.spans(line, 2), due[how]);
+            same("one is left as it is", Lines.spans(line, 0), "[10,20]");
+            same("the other is left as it is", Lines.spans(line, 1), "(15,20) (20,30]");
             same("join into one " + how, line.join(0, 0, 1, how), counts[how]);
-            same("joined into one " + how, spans(line, 0), due[how]);
+            same("joined into one " + how, Lines.spans(line, 0), due[how]);
         }
-        PuddingstoneLine line = with("[10,20]", "[15,30]");
+        PuddingstoneLine line = Lines.with("[10,20]", "[15,30]");
         same("join into the other", line.join(1, 0, 1, 2), 10);
-        same("joined into the other", spans(line, 1), "[10,15)");
+        same("joined into the other", Lines.spans(line, 1), "[10,15)");
         same("with itself, just one", line.join(0, 0, 0, 3), 0);
-        put(line, 3, "[0,0] [100,100]");
+        Lines.put(line, 3, "[0,0] [100,100]");
         same("at both ends of the LINE", line.join(4, 3, 1, 0), 12);
-        same("joined at both ends", spans(line, 4), "[0,0] [10,15) [100,100]");
+        same("joined at both ends", Lines.spans(line, 4), "[0,0] [10,15) [100,100]");
         refused(line, "join to -1", INDEX, () -> line.join(-1, 0, 1, 0));
         refused(line, "join to 8", INDEX, () -> line.join(8, 0, 1, 4));
         refused(line, "join one 8", INDEX, () -> line.join(0, 8, 1, 0));
@@ -220,13 +169,13 @@ public final class PuddingstoneLineTest {
     }
 
     private static void changed(String before, int how, int count, String after) {
-        PuddingstoneLine line = before.isEmpty() ? new PuddingstoneLine() : with("[3,4]", before);
+        PuddingstoneLine line = before.isEmpty() ? new PuddingstoneLine() : Lines.with("[3,4]", before);
         if (before.isEmpty()) {
             line.span(0, 3, 4, 3, true);
         }
         same("change " + how + " of " + before, line.change(1, how), count);
-        same("changed " + how + " of " + before, spans(line, 1), after);
-        same("another SET", spans(line, 0), "[3,4]");
+        same("changed " + how + " of " + before, Lines.spans(line, 1), after);
+        same("another SET", Lines.spans(line, 0), "[3,4]");
     }
 
     private static void promise4Change() {
@@ -259,7 +208,7 @@ public final class PuddingstoneLineTest {
         changed("(5,6)", 6, 1, "(5,6)");
         changed("", 6, 0, "");
         changed("[0,100]", 7, 0, "");
-        PuddingstoneLine line = with("[10,20]");
+        PuddingstoneLine line = Lines.with("[10,20]");
         for (int set : new int[] {-1, 8, MIN, MAX}) {
             refused(line, "change, set " + set, INDEX, () -> line.change(set, 0));
             refused(line, "change, both wrong, set " + set, INDEX, () -> line.change(set, 8));
@@ -270,21 +219,21 @@ public final class PuddingstoneLineTest {
     }
 
     private static void promise5Move() {
-        PuddingstoneLine line = with("[10,20) (30,40]");
+        PuddingstoneLine line = Lines.with("[10,20) (30,40]");
         same("move by 0", line.move(0, 0), 40);
-        same("moved by 0", spans(line, 0), "[10,20) (30,40]");
+        same("moved by 0", Lines.spans(line, 0), "[10,20) (30,40]");
         same("move right", line.move(0, 5), 40);
-        same("moved right", spans(line, 0), "[15,25) (35,45]");
+        same("moved right", Lines.spans(line, 0), "[15,25) (35,45]");
         same("move left", line.move(0, -20), 10 + 20);
-        same("moved left", spans(line, 0), "[0,5) (15,25]");
+        same("moved left", Lines.spans(line, 0), "[0,5) (15,25]");
         same("what was lost is lost", line.move(0, 80), 10 + 10);
-        same("moved over the end", spans(line, 0), "[80,85) (95,100]");
+        same("moved over the end", Lines.spans(line, 0), "[80,85) (95,100]");
         same("move by 100", line.move(0, 100), 0);
         line.span(1, 0, 100, 3, true);
         same("all by 100", line.move(1, 100), 1);
-        same("all moved by 100", spans(line, 1), "[100,100]");
+        same("all moved by 100", Lines.spans(line, 1), "[100,100]");
         same("back", line.move(1, -100), 1);
-        same("moved back", spans(line, 1), "[0,0]");
+        same("moved back", Lines.spans(line, 1), "[0,0]");
         for (int set : new int[] {-1, 8, MIN, MAX}) {
             refused(line, "move, set " + set, INDEX, () -> line.move(set, 1));
             refused(line, "move, both wrong, set " + set, INDEX, () -> line.move(set, 101));
@@ -295,22 +244,22 @@ public final class PuddingstoneLineTest {
     }
 
     private static void promise6Stretch() {
-        PuddingstoneLine line = with("[2,3] (5,6) [8,8]", "[33,34)", "(49,51)", "[0,0]", "(0,10]", "(0,100)");
+        PuddingstoneLine line = Lines.with("[2,3] (5,6) [8,8]", "[33,34)", "(49,51)", "[0,0]", "(0,10]", "(0,100)");
         same("stretch by 3", line.stretch(0, 3), 7 + 5 + 1);
-        same("stretched by 3", spans(line, 0), "[6,9] (15,18) [24,24]");
+        same("stretched by 3", Lines.spans(line, 0), "[6,9] (15,18) [24,24]");
         same("over the end", line.stretch(1, 3), 3);
-        same("stretched over the end", spans(line, 1), "[99,100]");
+        same("stretched over the end", Lines.spans(line, 1), "[99,100]");
         same("to the end", line.stretch(2, 2), 5 - 1);
-        same("stretched to the end", spans(line, 2), "(98,100]");
+        same("stretched to the end", Lines.spans(line, 2), "(98,100]");
         same("0 stays", line.stretch(3, 10), 1);
-        same("0 stayed", spans(line, 3), "[0,0]");
+        same("0 stayed", Lines.spans(line, 3), "[0,0]");
         same("by 10", line.stretch(4, 10), 200);
-        same("stretched by 10", spans(line, 4), "(0,100]");
+        same("stretched by 10", Lines.spans(line, 4), "(0,100]");
         same("all by 7", line.stretch(5, 7), 200);
-        same("stretched all by 7", spans(line, 5), "(0,100]");
-        put(line, 6, "[51,60]");
+        same("stretched all by 7", Lines.spans(line, 5), "(0,100]");
+        Lines.put(line, 6, "[51,60]");
         same("all lost", line.stretch(6, 2), 0);
-        put(line, 6, "[100,100]");
+        Lines.put(line, 6, "[100,100]");
         same("the end is lost", line.stretch(6, 10), 0);
         for (int set : new int[] {-1, 8, MIN, MAX}) {
             refused(line, "stretch, set " + set, INDEX, () -> line.stretch(set, 2));
@@ -324,7 +273,7 @@ public final class PuddingstoneLineTest {
     private static void promise7OfSet() {
         int[][] due = {{0, 0, 0, 0, 1, 100}, {201, 1, 100, 0, 0, 0}, {1, 1, 0, 1, 2, 60}, {60, 4, 30, 1, 5, 40},
             {200, 2, 100, 0, 1, 0}, {2, 2, 0, 2, 1, 100}};
-        PuddingstoneLine line = with("", "[0,100]", "[40,40]", "[10,20] [30,30] (40,50) (50,60)", "[0,7) (7,100]",
+        PuddingstoneLine line = Lines.with("", "[0,100]", "[40,40]", "[10,20] [30,30] (40,50) (50,60)", "[0,7) (7,100]",
             "[0,0] [100,100]");
         for (int what = 0; what <= 5; what++) {
             for (int set = 0; set < due.length; set++) {
@@ -341,7 +290,7 @@ public final class PuddingstoneLineTest {
     }
 
     private static void promise8OfSpan() {
-        PuddingstoneLine line = with("[0,0] (0,5) (5,6] [8,8] [10,99) (99,100]", "(3,4)");
+        PuddingstoneLine line = Lines.with("[0,0] (0,5) (5,6] [8,8] [10,99) (99,100]", "(3,4)");
         // the first two SPANS touch: 0 is beside all between 0 and 5
         int[][] due = {{0, 5, 1}, {5, 6, 2}, {8, 8, 3}, {10, 99, 1}, {99, 100, 2}};
         for (int span = 0; span < due.length; span++) {
@@ -367,7 +316,7 @@ public final class PuddingstoneLineTest {
     }
 
     private static void promise9Has() {
-        PuddingstoneLine line = with("[0,0] (10,12] (99,100]");
+        PuddingstoneLine line = Lines.with("[0,0] (10,12] (99,100]");
         int[] in = {0, 21, 22, 23, 24, 199, 200};
         for (int grain : in) {
             same("has " + grain, line.has(0, grain), true);
@@ -392,7 +341,7 @@ public final class PuddingstoneLineTest {
     }
 
     private static void promise10Far() {
-        PuddingstoneLine line = with("[10,10] (20,21)", "", "[0,0]", "[100,100]");
+        PuddingstoneLine line = Lines.with("[10,10] (20,21)", "", "[0,0]", "[100,100]");
         int[][] due = {{20, 0}, {0, 20}, {30, 10}, {31, 10}, {32, 9}, {41, 0}, {42, 1}, {200, 159}};
         for (int[] d : due) {
             same("far(0, " + d[0] + ")", line.far(0, d[0]), d[1]);
@@ -405,13 +354,13 @@ public final class PuddingstoneLineTest {
     }
 
     private static void promise11Beside() {
-        PuddingstoneLine line = with("[10,20]", "(10,20)", "[20,30]", "(20,30)", "", "", "[10,20]");
+        PuddingstoneLine line = Lines.with("[10,20]", "(10,20)", "[20,30]", "(20,30)", "", "", "[10,20]");
         int[][] due = {{0, 0, 0}, {0, 6, 0}, {4, 5, 0}, {1, 0, 1}, {0, 1, 2}, {4, 0, 1}, {0, 4, 2}, {0, 2, 3},
             {2, 0, 3}, {0, 3, 4}, {3, 0, 4}, {1, 2, 4}, {3, 2, 1}};
         for (int[] d : due) {
             same("beside(" + d[0] + ", " + d[1] + ")", line.beside(d[0], d[1]), d[2]);
         }
-        PuddingstoneLine ends = with("[0,0]", "[100,100]", "[0,100]");
+        PuddingstoneLine ends = Lines.with("[0,0]", "[100,100]", "[0,100]");
         same("both ends", ends.beside(0, 1), 4);
         same("the left end", ends.beside(0, 2), 1);
         same("the right end", ends.beside(2, 1), 2);
@@ -428,24 +377,25 @@ public final class PuddingstoneLineTest {
     private static void promise12Raise() {
         PuddingstoneLine line = new PuddingstoneLine();
         same("raise", line.raise(0, 10, 20, 3, 100), 3);
-        same("raised with both ends", values(line, 0, 19, 21) + " " + values(line, 0, 39, 41), "0 100 100 100 100 0");
+        same("raised with both ends", Lines.values(line, 0, 19, 21) + " " + Lines.values(line, 0, 39, 41),
+            "0 100 100 100 100 0");
         same("raise without ends", line.raise(0, 10, 20, 0, -30), 5);
-        same("raised without ends", values(line, 0, 19, 22) + " " + values(line, 0, 38, 41),
+        same("raised without ends", Lines.values(line, 0, 19, 22) + " " + Lines.values(line, 0, 38, 41),
             "0 100 70 70 70 70 100 0");
         same("raise with a", line.raise(1, 0, 1, 1, 5), 2);
-        same("raised with a", values(line, 1, 0, 3), "5 5 0 0");
+        same("raised with a", Lines.values(line, 1, 0, 3), "5 5 0 0");
         same("raise with b", line.raise(2, 99, 100, 2, 5), 2);
-        same("raised with b", values(line, 2, 197, 200), "0 0 5 5");
+        same("raised with b", Lines.values(line, 2, 197, 200), "0 0 5 5");
         same("raise a point", line.raise(3, 50, 50, 0, -7), 3);
-        same("raised a point", values(line, 3, 99, 101), "0 -7 0");
+        same("raised a point", Lines.values(line, 3, 99, 101), "0 -7 0");
         same("raise by 0", line.raise(3, 0, 100, 3, 0), 3);
         for (int k = 0; k < 12; k++) {
             line.raise(4, 0, 50, 1, 999);
             line.raise(4, 50, 100, 2, -999);
         }
-        same("no more than that", values(line, 4, 98, 102), "10000 10000 0 -10000 -10000");
+        same("no more than that", Lines.values(line, 4, 98, 102), "10000 10000 0 -10000 -10000");
         same("back from the limit", line.raise(4, 0, 100, 3, -1000), 3);
-        same("as it is then", values(line, 4, 99, 101), "9000 -1000 -10000");
+        same("as it is then", Lines.values(line, 4, 99, 101), "9000 -1000 -10000");
         same("by 1000", line.raise(4, 0, 100, 3, 1000), 3);
         for (int function : new int[] {-1, 5, MIN, MAX}) {
             refused(line, "raise, function " + function, INDEX, () -> line.raise(function, 0, 1, 3, 1));
@@ -460,12 +410,12 @@ public final class PuddingstoneLineTest {
     }
 
     private static void promise13Set() {
-        PuddingstoneLine line = with("[0,1) [50,50] (99,100]");
+        PuddingstoneLine line = Lines.with("[0,1) [50,50] (99,100]");
         line.raise(0, 0, 100, 3, 7);
         same("set", line.set(0, 0, -10000), 5);
-        same("set left", values(line, 0, 0, 2), "-10000 -10000 7");
-        same("set in between", values(line, 0, 99, 101), "7 -10000 7");
-        same("set right", values(line, 0, 198, 200), "7 -10000 -10000");
+        same("set left", Lines.values(line, 0, 0, 2), "-10000 -10000 7");
+        same("set in between", Lines.values(line, 0, 99, 101), "7 -10000 7");
+        same("set right", Lines.values(line, 0, 198, 200), "7 -10000 -10000");
         same("set 10000", line.set(0, 0, 10000), 5);
         same("set to what is there", line.set(0, 0, 7), 1);
         same("set on nothing", line.set(0, 1, 5), 1);
@@ -488,17 +438,17 @@ public final class PuddingstoneLineTest {
             "0 0 -4 0 0 0"};
         for (int how = 0; how <= 4; how++) {
             PuddingstoneLine line = new PuddingstoneLine();
-            valued(line, 0, 0, 3, 3, -20, 50, 0, -1000);
-            valued(line, 1, 0, 10, -7, 23, 1, 0, 0);
+            Lines.valued(line, 0, 0, 3, 3, -20, 50, 0, -1000);
+            Lines.valued(line, 1, 0, 10, -7, 23, 1, 0, 0);
             line.raise(2, 0, 100, 3, 77);
             line.mix(2, 0, 1, how);
-            same("mix " + how, values(line, 2, 0, 5), due[how]);
-            same("one is left as it is", values(line, 0, 0, 5), "3 3 -20 50 0 -1000");
-            same("other is left as it is", values(line, 1, 0, 5), "10 -7 23 1 0 0");
+            same("mix " + how, Lines.values(line, 2, 0, 5), due[how]);
+            same("one is left as it is", Lines.values(line, 0, 0, 5), "3 3 -20 50 0 -1000");
+            same("other is left as it is", Lines.values(line, 1, 0, 5), "10 -7 23 1 0 0");
             line.mix(0, 0, 1, how);
-            same("mix into one " + how, values(line, 0, 0, 5), due[how]);
+            same("mix into one " + how, Lines.values(line, 0, 0, 5), due[how]);
         }
-        PuddingstoneLine line = with("[0,9]", "[10,19]", "[20,29]", "[30,39]");
+        PuddingstoneLine line = Lines.with("[0,9]", "[10,19]", "[20,29]", "[30,39]");
         int[] left = {10000, -10000, 10000, -149};
         int[] right = {10000, 10000, -10000, -1};
         for (int set = 0; set < 4; set++) {
@@ -533,13 +483,13 @@ public final class PuddingstoneLineTest {
 
     private static void turned(int how, int n, int steps, String left, String right) {
         PuddingstoneLine line = new PuddingstoneLine();
-        valued(line, 0, 0, 5, -3, 8, 8, 2, 0, -1);
-        valued(line, 0, 196, 4, -6, 0, 9, -2);
+        Lines.valued(line, 0, 0, 5, -3, 8, 8, 2, 0, -1);
+        Lines.valued(line, 0, 196, 4, -6, 0, 9, -2);
         line.raise(1, 7, 8, 0, 3);
         same("turn " + how, line.turn(0, how, n), steps);
-        same("turned " + how + ", left", values(line, 0, 0, 8), left);
-        same("turned " + how + ", right", values(line, 0, 195, 200), right);
-        same("another FUNCTION", values(line, 1, 14, 16), "0 3 0");
+        same("turned " + how + ", left", Lines.values(line, 0, 0, 8), left);
+        same("turned " + how + ", right", Lines.values(line, 0, 195, 200), right);
+        same("another FUNCTION", Lines.values(line, 1, 14, 16), "0 3 0");
     }
 
     private static void promise15Turn() {
@@ -561,22 +511,22 @@ public final class PuddingstoneLineTest {
                 same("n is not looked at, how " + how, line.turn(0, how, n), 1);
             }
         }
-        PuddingstoneLine below = with("", "[0,100)", "[100,100]", "(99,100]");
+        PuddingstoneLine below = Lines.with("", "[0,100)", "[100,100]", "(99,100]");
         below.set(0, 1, -4);
         below.set(0, 2, -7);
         below.turn(0, 1, 0);
-        same("greatest from the left, all below 0", values(below, 0, 0, 1) + " " + values(below, 0, 199, 200),
-            "-4 -4 -4 -4");
+        same("greatest from the left, all below 0",
+            Lines.values(below, 0, 0, 1) + " " + Lines.values(below, 0, 199, 200), "-4 -4 -4 -4");
         below.set(0, 3, -9);
         below.set(0, 2, -7);
         below.turn(0, 2, 0);
-        same("greatest from the right, all below 0", values(below, 0, 0, 1) + " " + values(below, 0, 198, 200),
-            "-4 -4 -4 -7 -7");
-        PuddingstoneLine line = with("[0,2]", "[2,5]");
+        same("greatest from the right, all below 0",
+            Lines.values(below, 0, 0, 1) + " " + Lines.values(below, 0, 198, 200), "-4 -4 -4 -7 -7");
+        PuddingstoneLine line = Lines.with("[0,2]", "[2,5]");
         line.set(0, 0, 9000);
         line.set(0, 1, -9000);
         line.turn(0, 3, 0);
-        same("the limits hold for the sum alone", values(line, 0, 0, 9),
+        same("the limits hold for the sum alone", Lines.values(line, 0, 0, 9),
             "0 9000 9000 10000 10000 9000 9000 0 0 -9000");
         for (int function : new int[] {-1, 5, MIN, MAX}) {
             refused(line, "turn, function " + function, INDEX, () -> line.turn(function, 0, 0));
@@ -592,11 +542,12 @@ public final class PuddingstoneLineTest {
     }
 
     private static void promise16Thick() {
-        PuddingstoneLine line = with("[10,20]", "[15,30]", "[20,20]", "", "", "", "", "[0,100]");
+        PuddingstoneLine line = Lines.with("[10,20]", "[15,30]", "[20,20]", "", "", "", "", "[0,100]");
         line.raise(0, 0, 100, 3, 500);
         same("thick 7", line.thick(0, 7), 6);
-        String got = values(line, 0, 19, 20) + " " + values(line, 0, 29, 30) + " " + values(line, 0, 39, 41);
-        same("thickness 7", got + " " + values(line, 0, 60, 61), "0 1 1 2 2 3 1 1 0");
+        String got = Lines.values(line, 0, 19, 20) + " " + Lines.values(line, 0, 29, 30) + " "
+            + Lines.values(line, 0, 39, 41);
+        same("thickness 7", got + " " + Lines.values(line, 0, 60, 61), "0 1 1 2 2 3 1 1 0");
         same("thick 128", line.thick(0, 128), 1);
         same("thickness 128", line.value(0, 100), 1);
         same("thick 0", line.thick(0, 0), 1);
@@ -613,12 +564,12 @@ public final class PuddingstoneLineTest {
     }
 
     private static void promise17Where() {
-        PuddingstoneLine line = with("[0,100]");
-        valued(line, 0, 10, 1, 2, 3, 4, 5, -1, -2);
+        PuddingstoneLine line = Lines.with("[0,100]");
+        Lines.valued(line, 0, 10, 1, 2, 3, 4, 5, -1, -2);
         same("where 2 to 4", line.where(0, 0, 2, 4), 3);
-        same("it is there", spans(line, 0), "(5,7)");
+        same("it is there", Lines.spans(line, 0), "(5,7)");
         same("where 5", line.where(0, 0, 5, 5), 1);
-        same("it is there alone", spans(line, 0), "[7,7]");
+        same("it is there alone", Lines.spans(line, 0), "[7,7]");
         same("where not 0", line.where(1, 0, MIN, -1), 2);
         same("where 1 or more", line.where(2, 0, 1, MAX), 5);
         same("where anything", line.where(2, 0, MIN, MAX), 201);
@@ -635,8 +586,8 @@ public final class PuddingstoneLineTest {
 
     private static void promise18OfFunction() {
         PuddingstoneLine line = new PuddingstoneLine();
-        valued(line, 0, 0, -4, 7, -5, 7, 3, 3);
-        valued(line, 0, 199, 7, -5);
+        Lines.valued(line, 0, 0, -4, 7, -5, 7, 3, 3);
+        Lines.valued(line, 0, 199, 7, -5);
         line.raise(1, 0, 100, 3, 1000);
         line.raise(2, 0, 100, 3, -1000);
         line.raise(3, 100, 100, 3, 1);
@@ -666,9 +617,9 @@ public final class PuddingstoneLineTest {
 
     private static void promise19Value() {
         PuddingstoneLine line = new PuddingstoneLine();
-        valued(line, 4, 0, 1, 2, 3);
-        valued(line, 4, 199, 4, 5);
-        same("values", values(line, 4, 0, 3) + " " + values(line, 4, 198, 200), "1 2 3 0 0 4 5");
+        Lines.valued(line, 4, 0, 1, 2, 3);
+        Lines.valued(line, 4, 199, 4, 5);
+        same("values", Lines.values(line, 4, 0, 3) + " " + Lines.values(line, 4, 198, 200), "1 2 3 0 0 4 5");
         for (int k : new int[] {-1, MIN, MAX}) {
             refused(line, "value, function " + k, INDEX, () -> line.value(k, 0));
             refused(line, "value, grain " + k, INDEX, () -> line.value(0, k));
@@ -678,8 +629,8 @@ public final class PuddingstoneLineTest {
     }
 
     private static PuddingstoneLine sloped() {
-        PuddingstoneLine line = with("[10,13]", "[10,10] [12,12]", "", "(10,11) (12,13)", "[0,100]");
-        valued(line, 0, 18, 100, 100, 30, 1, 40, -9, 50, 2, 60, 100);
+        PuddingstoneLine line = Lines.with("[10,13]", "[10,10] [12,12]", "", "(10,11) (12,13)", "[0,100]");
+        Lines.valued(line, 0, 18, 100, 100, 30, 1, 40, -9, 50, 2, 60, 100);
         return line;
     }
 
@@ -718,7 +669,7 @@ public final class PuddingstoneLineTest {
     }
 
     private static void promise22Thicker() {
-        PuddingstoneLine line = with("[10,20]", "[15,30]", "[20,20]", "", "", "", "", "[0,100]");
+        PuddingstoneLine line = Lines.with("[10,20]", "[15,30]", "[20,20]", "", "", "", "", "[0,100]");
         int[][] due = {{7, 1, 41}, {7, 2, 11}, {7, 3, 1}, {7, 4, 0}, {7, 0, 201}, {7, -5, 201}, {7, MIN, 201},
             {7, MAX, 0}, {0, 0, 201}, {0, 1, 0}, {255, 1, 201}, {255, 4, 1}, {128, 1, 201}, {2, 1, 31}, {5, 2, 1}};
         for (int[] d : due) {
@@ -747,7 +698,7 @@ public final class PuddingstoneLineTest {
 
     // 0 is to be covered by 1 to 3; 4 has holes that no SPAN need fill; 5 has nothing; 6 is 2 once more.
     private static PuddingstoneLine covered() {
-        return with("[10,50]", "[10,20) [30,40]", "(15,30) [50,60]", "[0,20] [35,50)", "[0,5] [12,13] (40,45)", "",
+        return Lines.with("[10,50]", "[10,20) [30,40]", "(15,30) [50,60]", "[0,20] [35,50)", "[0,5] [12,13] (40,45)", "",
             "(15,30) [50,60]");
     }
 
@@ -760,7 +711,7 @@ public final class PuddingstoneLineTest {
         }
         line.span(7, 100, 100, 3, true);
         same("cover of the right end", line.cover(128, 7), 1);
-        PuddingstoneLine ends = with("[0,0] [100,100]", "[0,10] [90,100]", "[95,100]");
+        PuddingstoneLine ends = Lines.with("[0,0] [100,100]", "[0,10] [90,100]", "[95,100]");
         same("cover of both ends", ends.cover(2, 0), 2);
         same("no cover of both ends", ends.cover(4, 0), -1);
         same("cover up to the end", ends.cover(2, 2), 1);
@@ -792,7 +743,7 @@ public final class PuddingstoneLineTest {
     }
 
     private static void pinned(int due, String... sets) {
-        PuddingstoneLine line = with(sets);
+        PuddingstoneLine line = Lines.with(sets);
         String name = " of " + String.join(" | ", sets);
         same("apart" + name, line.apart(255), due);
         same("pins" + name, line.pins(255), due);
@@ -813,7 +764,7 @@ public final class PuddingstoneLineTest {
         pinned(1, "[0,0]", "[0,1]", "[0,100]");
         pinned(1, "[100,100]", "[99,100]", "[0,100]");
         pinned(2, "[10,12)", "", "", "", "", "", "", "(12,14)");
-        PuddingstoneLine line = with("[10,20] [40,50]", "[30,35]", "[0,100]");
+        PuddingstoneLine line = Lines.with("[10,20] [40,50]", "[30,35]", "[0,100]");
         int[][] due = {{0, 0}, {1, 2}, {2, 1}, {3, 3}, {4, 1}, {7, 3}, {5, 2}, {248, 0}};
         for (int[] d : due) {
             same("apart(" + d[0] + ")", line.apart(d[0]), d[1]);
@@ -824,7 +775,7 @@ public final class PuddingstoneLineTest {
     }
 
     private static void promise27MeetWith() {
-        PuddingstoneLine line = with("[10,20]", "[25,40]", "[0,100]", "[20,20]");
+        PuddingstoneLine line = Lines.with("[10,20]", "[25,40]", "[0,100]", "[20,20]");
         int[][] due = {{0, 0, 1, 0}, {0, 10, 1, 5}, {0, 5, 1, 0}, {0, 6, 1, 1}, {0, 20, 1, 10}, {1, -10, 0, 5},
             {0, 0, 0, 10}, {0, 3, 0, 7}, {0, -3, 0, 7}, {2, 30, 2, 70}, {2, -100, 2, 0}, {2, 100, 2, 0},
             {2, -99, 2, 1}, {0, -15, 2, 5}, {0, 85, 2, 5}, {3, 0, 3, 0}, {4, 0, 2, 0}};
@@ -841,7 +792,7 @@ public final class PuddingstoneLineTest {
     }
 
     private static void promise28Clear() {
-        PuddingstoneLine line = with("[10,20]", "[15,40]", "[0,100]", "[18,22]", "(30,40)", "[0,9] (61,100]", "",
+        PuddingstoneLine line = Lines.with("[10,20]", "[15,40]", "[0,100]", "[18,22]", "(30,40)", "[0,9] (61,100]", "",
             "[50,50]");
         int[][] due = {{0, 1, -6}, {1, 0, 6}, {0, 4, 0}, {2, 0, 1000}, {0, 2, 1000}, {3, 0, 3}, {4, 4, -10},
             {3, 3, -5}, {0, 0, 11}, {6, 2, 0}, {2, 6, 0}, {6, 6, 0}, {4, 5, 0}, {5, 5, 1000}, {7, 7, -1}, {2, 2, 1000},
@@ -851,12 +802,12 @@ public final class PuddingstoneLineTest {
             same("clear(" + d[0] + ", " + d[1] + ")", line.clear(d[0], d[1]), d[2]);
             same("clear changes nothing", line.digest(), before);
         }
-        PuddingstoneLine ends = with("[0,0]", "[0,99]", "[100,100]", "[1,100]", "[0,100)", "(0,100]");
+        PuddingstoneLine ends = Lines.with("[0,0]", "[0,99]", "[100,100]", "[1,100]", "[0,100)", "(0,100]");
         same("to the right end", ends.clear(0, 1), 100);
         same("to the left end", ends.clear(2, 3), -100);
         same("the right end is free", ends.clear(2, 4), 0);
         same("nowhere", ends.clear(1, 5), 1000);
-        PuddingstoneLine open = with("(99,100)", "(98,100)", "(0,1)", "(0,2)");
+        PuddingstoneLine open = Lines.with("(99,100)", "(98,100)", "(0,1)", "(0,2)");
         same("not over the right end", open.clear(0, 1), -2);
         same("not over the left end", open.clear(2, 3), 2);
         refusedOfTwoSets(line, "clear", (one, other) -> line.clear(one, other));
@@ -902,7 +853,7 @@ public final class PuddingstoneLineTest {
 
     private static PuddingstoneLine digested() {
         PuddingstoneLine line = covered();
-        valued(line, 3, 17, -1000, 1000, 3);
+        Lines.valued(line, 3, 17, -1000, 1000, 3);
         line.raise(4, 0, 100, 3, 1000);
         return line;
     }
