@@ -508,6 +508,18 @@ public final class EdgeSentencesTest {
         sentence("Returns that; 0 for 5 without GAPS.");
         same(Lines.full().ofSet(7, 5), 0);
         same(with("(0,100)").ofSet(0, 5), 0);
+        // What was asked of another SET ahead of it is of no account.
+        PuddingstoneLine ahead = with("[10,20] [30,30]", "[0,100]");
+        same(ahead.ofSpan(0, 1, 0), 30);
+        same(ahead.ofSet(1, 5), 0);
+        same(ahead.ofSet(0, 1), 2);
+        same(ahead.ofSet(1, 5), 0);
+        same(ahead.ofSet(0, 5), 70);
+        same(ahead.ofSet(1, 5), 0);
+        same(ahead.ofSpan(0, 0, 0), 10);
+        same(ahead.change(2, 5), 0);
+        same(ahead.ofSpan(0, 0, 0), 10);
+        same(ahead.change(2, 6), 0);
         sentence("0 where it begins, 1 where it ends (0 to 100, whether it is with that or not)");
         String[] wholes = {"(0,100)", "[0,100)", "(0,100]", "[0,100]"};
         for (int ends = 0; ends <= 3; ends++) {
